@@ -1301,8 +1301,8 @@ public final class SandNights {
         }
 
         void beginAnew(Told told) {
-            Arrays.fill(top, 0, MOST_CELLS, NONE);
-            Arrays.fill(met, 0, MOST_WALKERS * MOST_WALKERS, 0);
+            Arrays.fill(top, NONE);
+            Arrays.fill(met, 0);
             night = 0;
             seed = told.draw;
             beginDay(told);
@@ -1310,9 +1310,9 @@ public final class SandNights {
 
         void beginDay(Told told) {
             System.arraycopy(told.home, 0, at, 0, MOST_WALKERS);
-            Arrays.fill(trod, 0, MOST_CELLS, 0);
-            Arrays.fill(trodBy, 0, MOST_WALKERS, 0);
-            Arrays.fill(over, 0, MOST_WALKERS * MOST_WALKERS, 0);
+            Arrays.fill(trod, 0);
+            Arrays.fill(trodBy, 0);
+            Arrays.fill(over, 0);
             minute = 0;
         }
 
@@ -1487,7 +1487,7 @@ public final class SandNights {
 
         // What the cheapest way from each cell to the goal costs, by the cells that it comes to.
         private void priceAll(Ground ground, int goal, int dear) {
-            Arrays.fill(price, 0, MOST_CELLS, FAR);
+            Arrays.fill(price, FAR);
             price[goal] = has(ground.free, goal) ? 0 : FAR;
             boolean changed = true;
             for (int round = 0; round < MOST_CELLS && changed; round++) {
@@ -1542,7 +1542,7 @@ public final class SandNights {
 
         int countWays(Ground ground, int from, int goal) {
             priceAll(ground, goal, 0);
-            Arrays.fill(count, 0, MOST_CELLS, 0);
+            Arrays.fill(count, 0);
             count[goal] = price[goal] == 0 ? 1 : 0;
             for (int steps = 1; steps < MOST_CELLS; steps++) {
                 for (int cell = 0; cell < ground.cells; cell++) {
@@ -1565,7 +1565,7 @@ public final class SandNights {
         }
 
         int countRounds(Ground ground, int from, int n) {
-            Arrays.fill(count, 0, MOST_CELLS, 0);
+            Arrays.fill(count, 0);
             count[from] = 1;
             for (int i = 0; i < n; i++) {
                 for (int cell = 0; cell < ground.cells; cell++) {

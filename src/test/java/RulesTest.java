@@ -1,0 +1,122 @@
+import java.lang.management.ManagementFactory;
+import java.lang.reflect.Constructor;
+import java.lang.reflect.Field;
+import java.lang.reflect.Method;
+import java.lang.reflect.Modifier;
+import java.nio.file.Files;
+import java.nio.file.Path;
+import java.util.Arrays;
+import java.util.Set;
+import java.util.TreeSet;
+import java.util.regex.Matcher;
+import java.util.regex.Pattern;
+
+/** The public face, what of LANGUAGE.md can be seen without reading, and the room that a run takes. */
+public final class RulesTest {
+    private static final Check CHECK = new Check("RulesTest");
+    private static final String FACE = "feed/int,int,int,int,int/int end/int/int beach//int fault/int/int"
+        + " walker/int,int/int sand/int,int/int over/int,int/int met/int,int/int prints//int step/int,int/int"
+        + " minute//int night//int undo//boolean redo//boolean way/int,int/int ways/int,int/int sly/int,int,int/int"
+        + " reach/int,int/int parts//int join/int,int,int/int rounds/int,int/int guard/int,int,int/int trail/int/int"
+        + " ghost/int,int/int first/int,int/int alone/int/int crowd/int/int remains/int,int/int cover/int,int/int"
+        + " orders//int may/int/int matched/int,int,int,int/int catches/int,int/int lasts/int,int/int tides/int/int"
+        + " boldest//int lies/int/int seen/int,int,boolean/int inRow/int,int,boolean/int untell/int/boolean"
+        + " later/int/int paths/int/int sure/int,int/int ask/int,int/int image/int/int back/int/int about/int/int";
+
+    public static void main(String[] args) throws Exception {
+        face();
+        source();
+        room();
+        CHECK.finish();
+    }
+
+    private static void face() {
+        Set<String> due = new TreeSet<>(Arrays.asList(FACE.split(" ")));
+        Set<String> found = new TreeSet<>();
+        Set<String> hidden = new TreeSet<>();
+        for (Method m : SandNights.class.getDeclaredMethods()) {
+            StringBuilder types = new StringBuilder();
+            for (Class<?> type : m.getParameterTypes()) {
+                types.append(types.length() > 0 ? "," : "").append(type.getSimpleName());
+            }
+            if (Modifier.isPrivate(m.getModifiers())) {
+                hidden.add(m.getName());
+            } else {
+                found.add(m.getName() + "/" + types + "/" + m.getReturnType().getSimpleName());
+            }
+        }
+        CHECK.due("the methods are the document's " + due + " not " + found, found.equals(due), true);
+        for (String signature : due) {
+            String name = signature.substring(0, signature.indexOf('/'));
+            CHECK.due("a private method named " + name, hidden.contains(name), false);
+        }
+        for (Field f : SandNights.class.getDeclaredFields()) {
+            boolean constant = f.getName().equals("NONE");
+            CHECK.due("field " + f.getName(), Modifier.isPrivate(f.getModifiers()), !constant);
+        }
+        CHECK.due("NONE", SandNights.NONE, -1);
+        Constructor<?>[] constructors = SandNights.class.getDeclaredConstructors();
+        CHECK.due("constructors", constructors.length, 1);
+        CHECK.due("its parameters", constructors[0].getParameterCount(), 0);
+        CHECK.due("it is public", Modifier.isPublic(constructors[0].getModifiers()), true);
+        CHECK.due("final", Modifier.isFinal(SandNights.class.getModifiers()), true);
+        CHECK.due("public", Modifier.isPublic(SandNights.class.getModifiers()), true);
+        int classes = 0;
+        for (Class<?> c : SandNights.class.getDeclaredClasses()) {
+            classes++;
+            CHECK.due(c + " is static", Modifier.isStatic(c.getModifiers()), true);
+        }
+        CHECK.due("few classes", classes <= 11, true);
+    }
+
+    private static void source() throws Exception {
+        String all = Files.readString(Path.of("src/main/java/SandNights.java"));
+        String bare = all.replaceAll("(?s)/\\*.*?\\*/", "").replaceAll("//[^\n]*", "").replaceAll("\"[^\"\n]*\"", "\"\"");
+        String[] never = {"\\bthrow\\b", "\\bthrows\\b", "\\btry\\b", "\\bcatch\\b", "\\bsynchronized\\b", "\\bassert\\b",
+            "->", "::", "Exact\\b", "\\bpackage\\b", "\\bObject\\b", "\\bprotected\\b", "static\\s*\\{", "\\bfloat\\b",
+            "\\bdouble\\b", "\\bHash", "\\bString\\.", "\\bSystem\\.(?!arraycopy)", "\\bArrays\\.(?!fill|copyOf)",
+            "\\bThread\\b", "\\bequals\\b", "\\bhashCode\\b", "\\btoString\\b", "\\bvar\\b"};
+        for (String rule : never) {
+            Matcher m = Pattern.compile(rule).matcher(bare);
+            CHECK.due("the source has " + rule, m.find(), false);
+        }
+        Matcher imports = Pattern.compile("import ([^;]*);").matcher(bare);
+        while (imports.find()) {
+            CHECK.due("import " + imports.group(1), imports.group(1).equals("java.util.Arrays"), true);
+        }
+        for (int i = 0; i < all.length(); i++) {
+            if (all.charAt(i) > 127) {
+                CHECK.due("a sign above 127 at " + i, all.charAt(i), 127);
+            }
+        }
+    }
+
+    private static long allocated() {
+        return ((com.sun.management.ThreadMXBean) ManagementFactory.getThreadMXBean()).getCurrentThreadAllocatedBytes();
+    }
+
+    /** Nothing is given back in the room of a run, so a long run of acts must take little of it. */
+    private static void room() {
+        String text = "beach 5 by 5;walker a at 0 0 stride 10;walker b at 4 4 stride 10;wind 20;tide row > minute;";
+        for (int warm = 0; warm < 3; warm++) {
+            long before = allocated();
+            SandNights x = new SandNights();
+            long made = allocated() - before;
+            CHECK.due("bytes of a new object: " + made, made < 30000, true);
+            Check.tell(x, text);
+            before = allocated();
+            for (int i = 0; i < 60; i++) {
+                x.step(0, 0);
+                x.minute();
+                x.night();
+                x.image(i % 3);
+                x.guard(6, 18, 0);
+                x.catches(0, 1);
+                x.ask(0, 0);
+                x.sly(0, 24, 0);
+            }
+            long acts = allocated() - before;
+            CHECK.due("bytes of 480 calls: " + acts, acts < 200000, true);
+        }
+    }
+}
