@@ -1220,23 +1220,24 @@ public final class SandNights {
             return (set | aside | across) & free;
         }
 
-        private int flood(int set, int within) {
+        // All that steps within a set lead to; nothing, at once, if they lead to what is barred.
+        private int flood(int set, int within, int barred) {
             int reached = set & within;
-            for (int i = 0; i < MOST_CELLS; i++) {
+            for (int i = 0; i < MOST_CELLS && (reached & barred) == 0; i++) {
                 int next = spread(reached) & within;
                 if (next == reached) {
                     return reached;
                 }
                 reached = next;
             }
-            return reached;
+            return (reached & barred) == 0 ? reached : 0;
         }
 
         int partsOf(int set) {
             int left = set & free;
             int parts = 0;
             for (int i = 0; i < MOST_CELLS && left != 0; i++) {
-                left &= ~flood(left & -left, left);
+                left &= ~flood(left & -left, left, 0);
                 parts++;
             }
             return parts;
@@ -1258,7 +1259,7 @@ public final class SandNights {
         // The highest guard is set first, upward, so that the first set found is the least as bits.
         private int guardsOf(int howMany, int below, int guards, int from, int to) {
             if (howMany <= 0) {
-                return has(flood(bit(from), free & ~guards), to) ? NONE : guards;
+                return flood(bit(from), free & ~guards, bit(to)) == 0 ? NONE : guards;
             }
             for (int cell = howMany - 1; cell < below; cell++) {
                 if (cell != from && cell != to && has(free, cell)) {

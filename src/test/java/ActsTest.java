@@ -11,6 +11,8 @@ public final class ActsTest {
         nights();
         formulas();
         undone();
+        undoneMinute();
+        windEdge();
         kept();
         images();
         CHECK.finish();
@@ -219,6 +221,29 @@ public final class ActsTest {
         CHECK.due("redo()", x.redo(), false);
         CHECK.due("undo()", x.undo(), true);
         CHECK.due("walker(0, 0)", x.walker(0, 0), 1);
+    }
+
+    private static void undoneMinute() {
+        SandNights x = Check.told(THREE);
+        x.step(0, 0);
+        x.minute();
+        x.step(0, 0);
+        CHECK.due("sand(0, 1)", x.sand(0, 1), 1);
+        x.undo();
+        CHECK.due("the minute of the print below", x.sand(0, 1), 0);
+        x.redo();
+        CHECK.due("sand(0, 1)", x.sand(0, 1), 1);
+        x.night();
+        CHECK.due("a print that is left keeps its minute", x.sand(0, 1), 1);
+    }
+
+    /** Draw 7 makes the seed 30: wind takes what is less than it tells. */
+    private static void windEdge() {
+        for (int wind = 29; wind < 33; wind++) {
+            SandNights x = Check.told("walker a at 0 0 stride 10;draw 7;wind " + wind + ";");
+            x.step(0, 0);
+            CHECK.due("wind " + wind, x.night(), wind > 30 ? 1 : 0);
+        }
     }
 
     private static void kept() {

@@ -87,6 +87,9 @@ public final class PrintsTest {
         CHECK.due("crowd(1)", x.crowd(1), 3);
         CHECK.due("crowd(2)", x.crowd(2), -1);
         CHECK.due("crowd(-1)", x.crowd(-1), -1);
+        SandNights one = Check.told("walker a at 0 0 stride 10;");
+        one.minute();
+        CHECK.due("one alone", one.crowd(1), 1);
         SandNights nobody = new SandNights();
         nobody.minute();
         CHECK.due("without walkers", nobody.crowd(0), -1);
@@ -205,6 +208,7 @@ public final class PrintsTest {
         CHECK.due("matched(1, 0, 1, 0)", x.matched(1, 0, 1, 0), -1);
         CHECK.due("matched(1, 1, 0, 1)", x.matched(1, 1, 0, 1), -1);
         CHECK.due("matched(1, 0, 0, 1)", x.matched(1, 0, 0, 1), -1);
+        CHECK.due("matched(32, 999, 0, 0)", x.matched(32, 999, 0, 0), 0);
         CHECK.due("matched(1000, 0, 0, 0)", x.matched(1000, 0, 0, 0), -1);
         CHECK.due("matched(32, 32, 32, 1000)", x.matched(32, 32, 32, 1000), -1);
         CHECK.due("matched(32, -1, 0, 0)", x.matched(32, -1, 0, 0), -1);

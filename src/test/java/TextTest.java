@@ -6,6 +6,7 @@ public final class TextTest {
         newObject();
         tape();
         beachAnew();
+        toldOften();
         tokens();
         places();
         twice();
@@ -91,6 +92,35 @@ public final class TextTest {
         CHECK.due("about(1)", x.about(1), 4);
     }
 
+    /** Nothing of a beach, nor of a text with a fault, is left in the next one. */
+    private static void toldOften() {
+        String rich = "beach 5 by 2;hut 0 0;hut 1 0;hut 2 0;hut 3 0;walker a at 4 1 stride 10 slip 9;tide 1 + 1;"
+            + "wind 50;draw 500;";
+        SandNights x = new SandNights();
+        for (int i = 0; i < 4; i++) {
+            CHECK.due("the rich beach", Check.tell(x, rich), 1);
+            CHECK.due("a fault", Check.tell(x, rich + "#"), -1);
+            x.end(0);
+            x.step(0, 9);
+            x.minute();
+            x.step(0, 9);
+            CHECK.due("a poor beach", Check.tell(x, "walker b at 0 0 stride 20;walker a at 0 0 stride 20;"), 2);
+            int[] about = {2, 4, 4, 0, 0, 0, 0, 0, 0, 0, 0, 0, 0, 0};
+            for (int what = 0; what < about.length; what++) {
+                CHECK.due("poor about(" + what + ")", x.about(what), about[what]);
+            }
+            CHECK.due("no tide", x.sand(0, 5), 0);
+            CHECK.due("no wind", x.lasts(1, 0), 1);
+            CHECK.due("no slip", x.walker(0, 3), 0);
+            CHECK.due("no hut", x.sand(3, 4), 0);
+            x.minute();
+            CHECK.due("met anew", x.met(0, 1), 1);
+            x.night();
+            CHECK.due("an empty beach", x.beach(), 0);
+            CHECK.due("no hut where a walker was", Check.tell(x, "hut 0 0;hut 3 1;"), 0);
+        }
+    }
+
     private static void fine(String text, int walkers) {
         SandNights x = new SandNights();
         CHECK.due("beach() of " + text, Check.tell(x, text), walkers);
@@ -115,6 +145,7 @@ public final class TextTest {
         fine("beach2 by 5;hut0 0;", 0);
         fine("\nhut 0\n0 ; wind 0003;", 0);
         fine("walker abcdefgh at 0 0 stride 10;", 1);
+        fine("walker azyzxz at 0 0 stride 10;", 1);
         fine("walker one at 0 0 stride 10;walker sum at 0 0 stride 10;walker e at 0 0 stride 10;", 3);
         faulty("@Beach 2 by 2;", 1);
         faulty("@\tbeach 2 by 2;", 1);

@@ -53,6 +53,7 @@ public final class WaysTest {
         CHECK.due("ways to no cell", x.ways(0, 9), -1);
         SandNights wide = Check.told("beach 5 by 5;walker a at 0 0 stride 10;walker b at 4 4 stride 10;");
         CHECK.due("ways over all", wide.ways(0, 24), 70);
+        CHECK.due("ways back", wide.ways(1, 0), 70);
         CHECK.due("way back", wide.way(1, 0), 8);
         lie(wide, 24, 19, 14, 9, 4, 3, 2, 1, 0);
         SandNights walled = Check.told(WALLED);
@@ -155,6 +156,8 @@ public final class WaysTest {
         CHECK.due("a hut", x.guard(4, 0, 0), -1);
         CHECK.due("no cell", x.guard(0, 9, 0), -1);
         CHECK.due("no cell", x.guard(-1, 0, 0), -1);
+        CHECK.due("no cell", x.guard(9, 0, 0), -1);
+        CHECK.due("both no cell", x.guard(9, 9, 0), -1);
         CHECK.due("another what", x.guard(0, 8, 2), -1);
         SandNights walled = Check.told(WALLED);
         CHECK.due("parted already", walled.guard(0, 2, 0), 0);
