@@ -150,6 +150,17 @@ public final class ModelTest {
         return below(most + 3) - 1;
     }
 
+    /** Any numbers at all, of all sizes. */
+    private Object[] wild(Method call) {
+        Class<?>[] types = call.getParameterTypes();
+        Object[] given = new Object[types.length];
+        for (int i = 0; i < types.length; i++) {
+            int number = random.nextInt() >> below(32);
+            given[i] = types[i] == boolean.class ? (Object) random.nextBoolean() : (Object) number;
+        }
+        return given;
+    }
+
     private Object[] draw(String name) {
         return switch (name) {
             case "walker" -> new Object[] {walkerDraw(), what(5)};
@@ -229,7 +240,7 @@ public final class ModelTest {
     }
 
     private void both(Method call) throws Exception {
-        Object[] given = draw(call.getName());
+        Object[] given = below(12) == 0 ? wild(call) : draw(call.getName());
         Method other = Model.class.getMethod(call.getName(), call.getParameterTypes());
         Object want = other.invoke(model, given);
         check.due(call.getName() + Arrays.toString(given), number(call.invoke(x, given)), number(want));
