@@ -42,10 +42,11 @@ public final class ActsTest {
         for (int columns = 2; columns <= 5; columns++) {
             for (int rows = 2; rows <= 5; rows++) {
                 String size = "beach " + columns + " by " + rows + ";";
-                SandNights x = Check.told(size + "walker a at 1 " + (rows - 1) + " stride 10;tide row = 1 and column = 0;");
+                SandNights x = Check.told(size + "walker a at 1 " + (rows - 1) + " stride 10;"
+                    + "tide row = 1 and column = 0;");
                 CHECK.due("a WALKER's CELL, " + size, x.walker(0, 1), (rows - 1) * columns + 1);
                 for (int cell = 0; cell < columns * rows; cell++) {
-                    CHECK.due("tide by row and column in " + cell + ", " + size, x.sand(cell, 5), cell == columns ? 1 : 0);
+                    CHECK.due("tide in CELL " + cell + ", " + size, x.sand(cell, 5), cell == columns ? 1 : 0);
                 }
             }
         }
@@ -53,11 +54,12 @@ public final class ActsTest {
         for (int columns = 2; columns <= 5; columns++) {
             for (int rows = 2; rows <= 5; rows++) {
                 for (int from = 0; from < columns * rows; from++) {
-                    SandNights x = Check.told("beach " + columns + " by " + rows + ";walker a at " + from % columns + " "
-                        + from / columns + " stride 10;");
+                    String size = "beach " + columns + " by " + rows + ";";
+                    SandNights x = Check.told(size + "walker a at " + from % columns + " " + from / columns
+                        + " stride 10;");
                     for (int to = 0; to < columns * rows; to++) {
                         boolean fine = to == from || areBeside(from, to, columns);
-                        CHECK.due(columns + " by " + rows + ": from " + from + " to " + to, x.step(0, to), fine ? 1 : -1);
+                        CHECK.due(size + " from " + from + " to " + to, x.step(0, to), fine ? 1 : -1);
                         x.undo();
                     }
                 }
@@ -93,7 +95,8 @@ public final class ActsTest {
     }
 
     private static void routes() {
-        CHECK.by("Terms", "at each of the minutes 0 .. 59 of today behind which a MINUTE went by the CELL where he was then");
+        CHECK.by("Terms",
+            "at each of the minutes 0 .. 59 of today behind which a MINUTE went by the CELL where he was then");
         SandNights x = Check.told("beach 5 by 5;walker a at 0 0 stride 10;");
         CHECK.due("ghost(0, 0) at first", x.ghost(0, 0), -1);
         for (int minute = 0; minute < 63; minute++) {
@@ -109,6 +112,19 @@ public final class ActsTest {
     }
 
     private static void steps() {
+        CHECK.by("Terms", "a STEP of a WALKER to a CELL BESIDE his, or to his own: he is there");
+        SandNights there = Check.told(THREE);
+        for (int cell : new int[] {0, 1, 2, 5, 8, 7, 6, 3, 3, 0}) {
+            there.step(0, cell);
+            CHECK.due("he is there", there.walker(0, 0), cell);
+            CHECK.due("he is there", there.sand(cell, 3) & 1, 1);
+        }
+        CHECK.due("another one is not", there.walker(2, 0), 0);
+        CHECK.by("Terms", "Each WALKER has the CELLS that he TROD today");
+        CHECK.due("all but the hut", there.walker(0, 4), 511 - 16);
+        CHECK.due("another one", there.walker(1, 4), 0);
+        there.night();
+        CHECK.due("another day", there.walker(0, 4), 0);
         CHECK.by("Terms", "if the TOP there is another one, he lies OVER that one once more today");
         SandNights x = Check.told(THREE);
         x.step(0, 0);
@@ -153,9 +169,16 @@ public final class ActsTest {
     }
 
     private static void minutes() {
+        CHECK.by("Terms", "ROUTES have where all are");
+        SandNights all = Check.told(THREE);
+        all.step(1, 5);
+        all.minute();
+        CHECK.due("ghost(0, 0)", all.ghost(0, 0), 0);
+        CHECK.due("ghost(1, 0)", all.ghost(1, 0), 5);
+        CHECK.due("ghost(2, 0)", all.ghost(2, 0), 0);
         CHECK.by("Terms", "two WALKERS who are in one CELL MET once more (the minute is over)");
-        SandNights x = Check.told("beach 2 by 2;walker a at 0 0 stride 10;walker b at 0 0 stride 10;walker c at 1 1 stride 10;"
-            + "walker d at 0 0 stride 10;");
+        SandNights x = Check.told("beach 2 by 2;walker a at 0 0 stride 10;walker b at 0 0 stride 10;"
+            + "walker c at 1 1 stride 10;walker d at 0 0 stride 10;");
         CHECK.due("met(0, 1) at first", x.met(0, 1), 0);
         x.step(2, 1);
         x.step(2, 0);
@@ -182,7 +205,8 @@ public final class ActsTest {
     }
 
     private static void tides() {
-        CHECK.by("Terms", "then in each CELL for which what comes of tide (0, if it is not told) is not 0, there is no TOP any more");
+        CHECK.by("Terms",
+            "then in each CELL for which what comes of tide (0, if it is not told) is not 0, there is no TOP any more");
         SandNights x = Check.told("beach 3 by 2;walker a at 0 0 stride 10;tide column - 1;");
         x.step(0, 0);
         x.step(0, 1);
@@ -253,7 +277,7 @@ public final class ActsTest {
     private static void formulas() {
         CHECK.by("Terms", "by row, column, minute (the new one), night (0 at first), trod");
         allWet("row = 2", "column = 1", "minute = 4", "night = 1", "trod = 3", "9999 - 9998", "9999 = 9999", "0001");
-        for (String formula : new String[] {"0", "row = 1", "column = 2", "minute = 3", "night = 0", "trod = 2", "row - 2"}) {
+        for (String formula : "0/row = 1/column = 2/minute = 3/night = 0/trod = 2/row - 2".split("/")) {
             wet(formula, 0);
         }
         CHECK.by("Terms", "ints, wrapping");
@@ -270,12 +294,14 @@ public final class ActsTest {
         wet("5 % 0", 0);
         CHECK.by("Terms", "relations, and, or, not are 1 or 0, of what is not 0");
         allWet("(3 > 2) = 1", "(3 < 2) = 0", "(3 < 3) = 0", "(3 > 3) = 0", "(2 < 3) = 1", "(3 = 3) = 1", "(3 = 2) = 0",
-            "(0 - 1 < 0) = 1", "(7 and 9) = 1", "((0 - 1) and 2) = 1", "(2 and 4) = 1", "(0 and 9) = 0", "(9 and 0) = 0",
+            "(0 - 1 < 0) = 1", "(7 and 9) = 1", "((0 - 1) and 2) = 1", "(2 and 4) = 1", "(0 and 9) = 0",
+            "(9 and 0) = 0",
             "(7 or 0) = 1", "(0 or 7) = 1", "(7 or 9) = 1", "(0 or 0) = 0", "(not 9) = 0", "(not (0 - 1)) = 0",
             "(not 0) = 1", "(not not 5) = 1");
         CHECK.by("Terms", "e = both {or both}.  both = one {and one}.  one = not one | sum [(< | > | =) sum].");
-        allWet("2 + 3 * 4 = 14", "10 - 3 - 2 = 5", "100 / 10 / 5 = 2", "7 % 3 * 2 = 2", "2 * 7 % 3 = 2", "(2 + 3) * 4 = 20",
-            "1 or 0 and 0", "not 0 or 1", "not 1 < 0", "not 1 = 2", "not 2 + 3 = 4", "0 and 0 or 1", "9 - 2 * 3 + 1 = 4");
+        allWet("2 + 3 * 4 = 14", "10 - 3 - 2 = 5", "100 / 10 / 5 = 2", "7 % 3 * 2 = 2", "2 * 7 % 3 = 2",
+            "(2 + 3) * 4 = 20", "1 or 0 and 0", "not 0 or 1", "not 1 < 0", "not 1 = 2", "not 2 + 3 = 4",
+            "0 and 0 or 1", "9 - 2 * 3 + 1 = 4");
         wet("not 1 and 0", 0);
         wet("0 and 1 or 0", 0);
         wet("(1 or 0) and 0", 0);
@@ -283,7 +309,8 @@ public final class ActsTest {
     }
 
     private static void nights() {
-        CHECK.by("Terms", "CELL by CELL, where there is a TOP, the SEED (draw, at first) becomes its 137-fold and 71 more, modulo 1,000");
+        CHECK.by("Terms", "CELL by CELL, where there is a TOP, the SEED (draw, at first) becomes its 137-fold and 71"
+            + " more, modulo 1,000");
         SandNights x = Check.told("beach 2 by 2;walker a at 0 0 stride 10;wind 40;draw 7;");
         CHECK.due("about(6) at first", x.about(6), 7);
         x.night();
@@ -413,7 +440,8 @@ public final class ActsTest {
     }
 
     private static void undone() {
-        CHECK.by("Terms", "UNDO takes back the latest ACT that was not, REDO does that again which was taken back last");
+        CHECK.by("Terms",
+            "UNDO takes back the latest ACT that was not, REDO does that again which was taken back last");
         for (int first = 0; first < 3; first++) {
             for (int second = 0; second < 3; second++) {
                 SandNights x = Check.told(THREE + "wind 40;draw 7;tide minute = 2 and column = 1;");
@@ -493,7 +521,8 @@ public final class ActsTest {
     }
 
     private static void walker() {
-        CHECK.by("6", "what 0: his CELL, 1: where he was told, 2: stride, 3: slip, 4: CELLS that he TROD today, as bits, 5: FRESH, as bits");
+        CHECK.by("6", "what 0: his CELL, 1: where he was told, 2: stride, 3: slip, 4: CELLS that he TROD today, as"
+            + " bits, 5: FRESH, as bits");
         SandNights x = Check.told(THREE);
         int[][] due = {{0, 0, 30, 2, 0, 0}, {2, 2, 33, 0, 0, 0}, {0, 0, 40, 0, 0, 0}};
         for (int walker = 0; walker < 3; walker++) {
@@ -577,12 +606,18 @@ public final class ActsTest {
     }
 
     private static void overAndMet() {
-        CHECK.by("8", "NONE if one can't be (himself, too)");
+        CHECK.by("8", "How often a WALKER lies OVER another one today");
         SandNights x = Check.told(THREE);
         x.minute();
+        CHECK.due("over(2, 0)", x.over(2, 0), 0);
         x.step(0, 0);
         x.step(2, 0);
         CHECK.due("over(2, 0)", x.over(2, 0), 1);
+        CHECK.due("over(0, 2)", x.over(0, 2), 0);
+        x.step(0, 1);
+        x.step(2, 1);
+        CHECK.due("over(2, 0) twice", x.over(2, 0), 2);
+        CHECK.by("8", "NONE if one can't be (himself, too)");
         for (int walker = 0; walker < 3; walker++) {
             CHECK.due("over himself", x.over(walker, walker), -1);
             for (int other : NO_WALKERS) {
@@ -590,8 +625,13 @@ public final class ActsTest {
                 CHECK.due("over(" + other + ", " + walker + ")", x.over(other, walker), -1);
             }
         }
-        CHECK.by("9", "NONE if one can't be (one twice, too)");
+        CHECK.by("9", "How often two MET");
         CHECK.due("met(2, 0)", x.met(2, 0), 1);
+        CHECK.due("met(0, 2)", x.met(0, 2), 1);
+        CHECK.due("met(0, 1)", x.met(0, 1), 0);
+        x.minute();
+        CHECK.due("met(2, 0) twice", x.met(2, 0), 2);
+        CHECK.by("9", "NONE if one can't be (one twice, too)");
         for (int walker = 0; walker < 3; walker++) {
             CHECK.due("met himself", x.met(walker, walker), -1);
             for (int other : NO_WALKERS) {
@@ -765,7 +805,8 @@ public final class ActsTest {
         for (int box = 2; box >= 0; box--) {
             CHECK.due("back(" + box + ")", x.back(box), box);
         }
-        CHECK.by("46", "Where WALKERS are, prints, what was TROD, OVER, ROUTES, who MET, minute, night, SEED are kept in a BOX 0 .. 2");
+        CHECK.by("46", "Where WALKERS are, prints, what was TROD, OVER, ROUTES, who MET, minute, night, SEED are kept"
+            + " in a BOX 0 .. 2");
         x = Check.told(THREE + "draw 3;wind 30;tide minute = 9;");
         x.step(1, 1);
         x.night();
@@ -832,8 +873,9 @@ public final class ActsTest {
     }
 
     private static void about() {
-        CHECK.by("48", "What 0: WALKERS, 1: COLUMNS, 2: ROWS, 3: huts, 4: the minute, 5: the night, 6: the SEED, 7: ACTS that can be undone,"
-            + " 8: redone, 9: SIGHTS, 10: the TIME, 11: bytes on the TAPE, 12: units, 13: numbers that lie there.");
+        CHECK.by("48", "What 0: WALKERS, 1: COLUMNS, 2: ROWS, 3: huts, 4: the minute, 5: the night, 6: the SEED,"
+            + " 7: ACTS that can be undone, 8: redone, 9: SIGHTS, 10: the TIME, 11: bytes on the TAPE,"
+            + " 12: units, 13: numbers that lie there.");
         SandNights x = Check.told("beach 3 by 4;hut 0 0;hut 1 0;walker a at 0 1 stride 10;tide 1 + row;draw 71;");
         x.later(9);
         x.step(0, 4);

@@ -1,4 +1,4 @@
-/** Part 3 of the terms, promises 25 to 33 and 35 to 37: routes, what is left of prints, who trod, orders, lengths, odds. */
+/** Part 3 of the terms, promises 25 to 33 and 35 to 37: routes, what is left, who trod, orders, lengths, odds. */
 public final class PrintsTest {
     private static final Check CHECK = new Check("PrintsTest");
     private static final String THREE =
@@ -128,7 +128,8 @@ public final class PrintsTest {
     }
 
     private static void crowd() {
-        CHECK.by("28", "The minute of today at which most WALKERS were in one CELL, by ROUTES, what 0: it, 1: how many");
+        CHECK.by("28",
+            "The minute of today at which most WALKERS were in one CELL, by ROUTES, what 0: it, 1: how many");
         SandNights x = Check.told("walker a at 0 0 stride 10;walker b at 1 0 stride 10;walker c at 2 0 stride 10;"
             + "walker d at 3 0 stride 10;");
         x.minute();
@@ -231,7 +232,7 @@ public final class PrintsTest {
             }
         }
         means(wide, 3, 970299, 40000);
-        CHECK.by("29", "in lowest terms (0 of 1)");
+        CHECK.by("29", "the upper part (0), the lower part (1), in lowest terms (0 of 1)");
         SandNights half = Check.told("walker a at 0 0 stride 10;wind 50;");
         means(half, 0, 0, 1);
         means(half, 3, 0, 1);
@@ -265,7 +266,8 @@ public final class PrintsTest {
     }
 
     private static void cover() {
-        CHECK.by("Terms", "the fewest WALKERS who TROD all of these today together; of like ones the least set as bits");
+        CHECK.by("Terms",
+            "the fewest WALKERS who TROD all of these today together; of like ones the least set as bits");
         SandNights x = Check.told("beach 5 by 5;walker a at 0 0 stride 10;walker b at 0 0 stride 10;"
             + "walker c at 0 0 stride 10;walker d at 0 0 stride 10;walker f at 4 4 stride 10;");
         coverIs(x, 0);
@@ -285,6 +287,9 @@ public final class PrintsTest {
         coverIs(x, 35, 2, 3);
         coverIs(x, 1 << 24 | 35, 2, 3, 4);
         coverIs(x, 1 << 24 | 64, 3, 4);
+        CHECK.by("30", "COVER (CELLS as bits) what 0: how many, 1: which, as bits");
+        CHECK.due("cover(35, 0)", x.cover(35, 0), 2);
+        CHECK.due("cover(35, 1)", x.cover(35, 1), 12);
         CHECK.by("30", "NONE if all together did not, or one can't be");
         for (int what = 0; what < 2; what++) {
             CHECK.due("nobody TROD it", x.cover(5, what), -1);
@@ -312,7 +317,8 @@ public final class PrintsTest {
     }
 
     private static void orders() {
-        CHECK.by("Terms", "in how many orders all WALKERS can have walked one behind the other, if each lies behind all OVER whom he lies today");
+        CHECK.by("Terms", "in how many orders all WALKERS can have walked one behind the other, if each lies behind"
+            + " all OVER whom he lies today");
         SandNights x = Check.told("walker a at 0 0 stride 10;walker b at 0 0 stride 10;walker c at 0 0 stride 10;"
             + "walker d at 0 0 stride 10;walker f at 0 0 stride 10;");
         CHECK.due("orders()", x.orders(), 120);
@@ -352,8 +358,8 @@ public final class PrintsTest {
         CHECK.by("32", "WALKERS of whom a print of a length (1 .. 999) MAY be, as bits; NONE for another one.");
         SandNights edges = Check.told("walker a at 0 0 stride 10 slip 9;walker b at 0 0 stride 99 slip 9;"
             + "walker c at 0 0 stride 10;walker d at 0 0 stride 99;walker f at 0 0 stride 99 slip 8;");
-        int[][] far = {{1, 1}, {10, 5}, {19, 1}, {20, 0}, {89, 0}, {90, 2}, {91, 18}, {99, 26}, {107, 18}, {108, 2}, {109, 0},
-            {999, 0}};
+        int[][] far = {{1, 1}, {10, 5}, {19, 1}, {20, 0}, {89, 0}, {90, 2}, {91, 18}, {99, 26}, {107, 18}, {108, 2},
+            {109, 0}, {999, 0}};
         for (int[] pair : far) {
             CHECK.due("may(" + pair[0] + ")", edges.may(pair[0]), pair[1]);
         }
@@ -364,7 +370,8 @@ public final class PrintsTest {
     }
 
     private static void matched() {
-        CHECK.by("Terms", "ways in which they are of unlike WALKERS, of each of whom it MAY be");
+        CHECK.by("Terms",
+            "(up to four, in a row): ways in which they are of unlike WALKERS, of each of whom it MAY be");
         SandNights x = Check.told(THREE);
         CHECK.due("matched(32, 0, 0, 0)", x.matched(32, 0, 0, 0), 2);
         CHECK.due("matched(32, 34, 0, 0)", x.matched(32, 34, 0, 0), 3);
@@ -425,7 +432,7 @@ public final class PrintsTest {
         odds(x, 2, 9801, 10000);
         odds(x, 3, 970299, 1000000);
         odds(x, 4, 96059601, 100000000);
-        CHECK.by("35", "in lowest terms (0 of 1)");
+        CHECK.by("35", "the upper part (0), the lower part (1), in lowest terms (0 of 1)");
         odds(Check.told("wind 50;"), 2, 1, 4);
         odds(Check.told("wind 50;"), 4, 1, 16);
         odds(Check.told("wind 40;"), 1, 3, 5);
@@ -468,7 +475,8 @@ public final class PrintsTest {
 
     private static void tides() {
         CHECK.by("Terms", "how many CELLS with a TOP the next n MINUTES leave, if nobody steps");
-        SandNights x = Check.told("beach 3 by 3;walker a at 0 0 stride 10;tide minute = 3 and row = 0 or minute = 60 and row = 1;");
+        SandNights x = Check.told("beach 3 by 3;walker a at 0 0 stride 10;"
+            + "tide minute = 3 and row = 0 or minute = 60 and row = 1;");
         CHECK.due("no prints", x.tides(0), 0);
         CHECK.due("no prints", x.tides(60), 0);
         x.step(0, 1);
@@ -489,7 +497,8 @@ public final class PrintsTest {
         SandNights now = Check.told("walker a at 0 0 stride 10;tide minute = 0;");
         now.step(0, 0);
         CHECK.due("this minute's tide is over", now.tides(60), 1);
-        SandNights wide = Check.told("beach 5 by 5;walker a at 4 4 stride 10;tide minute = 2 and row = 4 and column = 3;");
+        SandNights wide = Check.told("beach 5 by 5;walker a at 4 4 stride 10;"
+            + "tide minute = 2 and row = 4 and column = 3;");
         wide.step(0, 24);
         wide.step(0, 23);
         CHECK.due("the last CELLS", wide.tides(1), 2);

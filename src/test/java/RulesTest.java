@@ -25,7 +25,9 @@ public final class RulesTest {
 
     public static void main(String[] args) throws Exception {
         face();
+        shape();
         source();
+        lengths();
         room();
         CHECK.finish();
     }
@@ -67,6 +69,40 @@ public final class RulesTest {
             CHECK.due(c + " is static", Modifier.isStatic(c.getModifiers()), true);
         }
         CHECK.due("few classes", classes <= 11, true);
+    }
+
+    /** Rules 1 and 11: names, parameters and fields of the classes inside, too. */
+    private static void shape() {
+        for (Class<?> c : SandNights.class.getNestMembers()) {
+            for (Method m : c.getDeclaredMethods()) {
+                boolean hidden = Modifier.isPrivate(m.getModifiers());
+                CHECK.due(c + ", parameters of " + m.getName(), m.getParameterCount() <= 7, true);
+                boolean inFace = (" " + FACE).contains(" " + m.getName() + "/");
+                CHECK.due(c + ", private " + m.getName(), hidden && inFace, false);
+            }
+            int fields = 0;
+            for (Field f : c.getDeclaredFields()) {
+                boolean shared = Modifier.isStatic(f.getModifiers());
+                fields += shared ? 0 : 1;
+                CHECK.due(c + ", static " + f.getName(), !shared || Modifier.isFinal(f.getModifiers()), true);
+            }
+            CHECK.due(c + ", fields: " + fields, fields <= 20, true);
+        }
+    }
+
+    /** Rule 11: methods stay short. A method's first line is told by its indent and its brace. */
+    private static void lengths() throws Exception {
+        int start = 0;
+        int number = 0;
+        for (String line : Files.readAllLines(Path.of("src/main/java/SandNights.java"))) {
+            number++;
+            CHECK.due("width of line " + number, line.length() <= 120, true);
+            if (line.matches("(    |        )[a-zA-Z].*\\) \\{")) {
+                start = number;
+            } else if (line.matches("(    |        )\\}")) {
+                CHECK.due("lines from " + start + " to " + number, number - start <= 60, true);
+            }
+        }
     }
 
     private static void source() throws Exception {

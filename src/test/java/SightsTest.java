@@ -125,9 +125,10 @@ public final class SightsTest {
     }
 
     private static void later() {
-        CHECK.by("42", "So much later (0 .. 1000): the TIME");
+        CHECK.by("Terms", "are TOLD at a TIME (0 at first, goes on)");
         SandNights x = new SandNights();
         CHECK.due("0 at first", x.about(10), 0);
+        CHECK.by("42", "So much later (0 .. 1000): the TIME");
         CHECK.due("later(0)", x.later(0), 0);
         CHECK.due("later(1)", x.later(1), 1);
         CHECK.due("later(1000)", x.later(1000), 1001);
@@ -169,6 +170,15 @@ public final class SightsTest {
         x.seen(3, 3, true);
         x.seen(7, 4, true);
         CHECK.due("staying", x.paths(0) > 0, true);
+        CHECK.by("Terms", "PATHS: ways that he can have gone by which all that count are so.");
+        SandNights some = Check.told("beach 2 by 2;");
+        some.seen(0, 0, true);
+        some.inRow(1, 1, true);
+        CHECK.due("one of three steps", some.paths(0), ALL / 4 / 3);
+        some.seen(7, 2, false);
+        some.seen(7, 3, false);
+        some.inRow(7, 1, true);
+        CHECK.due("no CELL is left", some.paths(0), 0);
         CHECK.by("43", "PATHS: how many.");
         SandNights all = Check.told("beach 2 by 2;");
         for (int minute = 0; minute < 8; minute++) {
@@ -238,6 +248,13 @@ public final class SightsTest {
     }
 
     private static void sure() {
+        CHECK.by("Terms", "SURE of a minute: the CELL, if it is the same in all.");
+        SandNights by = Check.told("beach 2 by 2;");
+        by.seen(3, 0, false);
+        by.seen(3, 1, false);
+        CHECK.due("two CELLS are left", by.sure(3, 0), -2);
+        by.seen(3, 3, false);
+        CHECK.due("by what he was not", by.sure(3, 0), 2);
         CHECK.by("44", "SURE: the CELL; -2 if it is not the same in all");
         SandNights x = Check.told("beach 5 by 5;");
         CHECK.due("sure(0, 0)", x.sure(0, 0), -2);
@@ -269,7 +286,8 @@ public final class SightsTest {
     }
 
     private static void ask() {
-        CHECK.by("Terms", "the minute of which to know the CELL would leave the fewest of these at the most; of like ones the first");
+        CHECK.by("Terms",
+            "the minute of which to know the CELL would leave the fewest of these at the most; of like ones the first");
         SandNights x = Check.told("beach 2 by 2;");
         CHECK.due("all alike", x.ask(0, 0), 0);
         for (int minute : new int[] {0, 1, 2, 4, 5, 6}) {

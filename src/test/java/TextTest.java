@@ -3,6 +3,8 @@ public final class TextTest {
     private static final Check CHECK = new Check("TextTest");
     private static final String WORDS =
         "beach by hut walker at stride slip tide wind draw or and not row column minute night trod";
+    private static final String[] LINES = {"beach 3 by 3 ;", "hut 0 1 ;", "walker a at 0 1 stride 10 ;",
+        "walker a at 0 1 stride 10 slip 3 ;", "tide row ;", "wind 3 ;", "draw 3 ;"};
     private static final String FIVE = "walker a at 0 0 stride 10;walker b at 0 0 stride 11;walker c at 1 0 stride 12;"
         + "walker d at 0 1 stride 13;walker f at 3 3 stride 14;";
     private static final String FOUR = "hut 0 2;hut 1 2;hut 2 2;hut 3 2;";
@@ -11,6 +13,7 @@ public final class TextTest {
 
     public static void main(String[] args) {
         size();
+        lines();
         bytes();
         tokens();
         names();
@@ -23,6 +26,7 @@ public final class TextTest {
         depth();
         firstFault();
         endOfText();
+        faultOne();
         leastFault();
         faultTwo();
         faultThree();
@@ -70,9 +74,27 @@ public final class TextTest {
         faulty(" ".repeat(1594) + "wind 7", 2, 1600);
         CHECK.by("Terms", "beach = {line}.");
         fine("", 0);
+        for (String line : LINES) {
+            fine(line, line.startsWith("walker") ? 1 : 0);
+        }
         fine(" \n ", 0);
         fine("wind 1;", 0);
         fine("wind 1;draw 1;hut 0 0;hut 1 0;", 0);
+    }
+
+    private static void lines() {
+        CHECK.by("Terms", "line = beach N by N ;  |  hut N N ;  |  walker NAME at N N stride N [slip N] ;  |  tide e"
+            + " ;  |  wind N ;  |  draw N ;.");
+        for (String line : LINES) {
+            String[] tokens = line.split(" ");
+            for (int out = 0; out < tokens.length; out++) {
+                StringBuilder left = new StringBuilder();
+                for (int i = 0; i < tokens.length; i++) {
+                    left.append(i == out ? "" : tokens[i] + " ");
+                }
+                CHECK.due("without its token " + out + ": " + line, Check.tell(new SandNights(), left.toString()), -1);
+            }
+        }
     }
 
     private static boolean isSign(int b) {
@@ -299,7 +321,7 @@ public final class TextTest {
     }
 
     private static void units() {
-        CHECK.by("Terms", "30 in one e");
+        CHECK.by("Terms", "60 units in all, 30 in one e");
         for (int n = 1; n <= 30; n++) {
             CHECK.due("units", Check.told("tide 1" + "+1".repeat(n - 1) + ";").about(12), n);
         }
@@ -386,6 +408,17 @@ public final class TextTest {
         }
     }
 
+    private static void faultOne() {
+        CHECK.by("Terms", "1 no TOKEN");
+        for (String none : "# ! , . : [ ] { } _ A Z @ ^ ~ & | abcdefghi 00000 1a 123456 9999z".split(" ")) {
+            faulty(none, 1, 0);
+            faulty("wind 1;" + none, 1, 7);
+            faulty("wind " + none + ";", 1, 5);
+            faulty("tide row + " + none + ";", 1, 11);
+            faulty("hut 0 0 " + none, 1, 8);
+        }
+    }
+
     private static void leastFault() {
         CHECK.by("Terms", "at one place the least");
         faulty("@abcdefghi", 1);
@@ -432,7 +465,8 @@ public final class TextTest {
         faulty("wind @wind;", 2);
         faulty("wind @- 1;", 2);
         faulty("draw @(1);", 2);
-        CHECK.by("Terms", "(one of a sort too many, a second time, beach behind another line: at the line's first word");
+        CHECK.by("Terms",
+            "(one of a sort too many, a second time, beach behind another line: at the line's first word");
         faulty(FOUR + "@hut #", 2);
         faulty(FIVE + "@walker #", 2);
         faulty("tide 1;@tide #", 2);
@@ -492,7 +526,7 @@ public final class TextTest {
     }
 
     private static void feed() {
-        CHECK.by("2", "of each number the highest first");
+        CHECK.by("2", "Twenty bytes come behind those on the TAPE, of each number the highest first");
         SandNights x = new SandNights();
         CHECK.due("wind 1;", x.feed(0x77696e64, 0x20313b20, 0x64726177, 0x20322030, 0x30202020), 20);
         CHECK.due("end(19)", x.end(19), 19);
@@ -574,7 +608,8 @@ public final class TextTest {
     private static void beach() {
         CHECK.by("4", "The TAPE (empty then) is the BEACH");
         SandNights x = used();
-        Check.feed(x, "beach 2 by 3;walker b at 1 2 stride 20 slip 1;walker a at 1 2 stride 11;tide 1;draw 9;wind 4;hut 0 0;");
+        Check.feed(x, "beach 2 by 3;walker b at 1 2 stride 20 slip 1;walker a at 1 2 stride 11;tide 1;draw 9;"
+            + "wind 4;hut 0 0;");
         CHECK.due("bytes on the TAPE", x.about(11) > 0, true);
         CHECK.due("how many WALKERS", x.beach(), 2);
         CHECK.due("bytes on the TAPE", x.about(11), 0);

@@ -179,7 +179,8 @@ public final class WaysTest {
     }
 
     private static void sly() {
-        CHECK.by("Terms", "fewest of the CELLS that he comes to have another TOP than another WALKER (none, or himself)");
+        CHECK.by("Terms",
+            "fewest of the CELLS that he comes to have another TOP than another WALKER (none, or himself)");
         SandNights x = Check.told(RING);
         slyIs(x, 0, 3, 0, 1, 2, 5);
         x.step(2, 7);
@@ -301,7 +302,8 @@ public final class WaysTest {
     }
 
     private static void join() {
-        CHECK.by("Terms", "the fewest minutes by which both can be in one CELL, each with a step, or staying, in each; of like ones the first CELL");
+        CHECK.by("Terms", "the fewest minutes by which both can be in one CELL, each with a step, or staying, in"
+            + " each; of like ones the first CELL");
         SandNights x = Check.told(RING);
         CHECK.due("join(0, 1, 0)", x.join(0, 1, 0), 1);
         CHECK.due("join(1, 0, 1)", x.join(1, 0, 1), 1);
@@ -382,7 +384,8 @@ public final class WaysTest {
         guardIs(Check.told("beach 3 by 2;"), 0, 2, 1, 3);
         guardIs(wide, 2, 18, 1, 3, 7);
         guardIs(wide, 24, 12, 19, 23);
-        CHECK.by("Terms", "of like ones the least set as bits");
+        CHECK.by("Terms",
+            "so that no steps lead from the one to the other one without these; of like ones the least set as bits");
         SandNights x = Check.told(RING);
         guardIs(x, 0, 8, 1, 3);
         guardIs(x, 8, 1, 0, 2);
@@ -393,8 +396,11 @@ public final class WaysTest {
     }
 
     private static void guardNone() {
-        CHECK.by("23", "NONE if 3 are not enough, both are one, one has a hut, or one can't be");
+        CHECK.by("23", "GUARD what 0: how many, 1: which, as bits");
         SandNights x = Check.told(RING);
+        CHECK.due("guard(0, 8, 0)", x.guard(0, 8, 0), 2);
+        CHECK.due("guard(0, 8, 1)", x.guard(0, 8, 1), 10);
+        CHECK.by("23", "NONE if 3 are not enough, both are one, one has a hut, or one can't be");
         SandNights wide = Check.told("beach 5 by 5;");
         for (int what = 0; what < 2; what++) {
             CHECK.due("four are needed", wide.guard(6, 18, what), -1);
@@ -418,7 +424,18 @@ public final class WaysTest {
     }
 
     private static void trail() {
-        CHECK.by("24", "In how many parts the FRESH prints of a WALKER lie (of one part are those BESIDE one another, and so on)");
+        CHECK.by("Terms", "FRESH of a WALKER: CELLS whose TOP he is.");
+        SandNights fresh = Check.told(RING + "tide minute = 1 and row = 0;");
+        fresh.step(0, 3);
+        fresh.step(0, 0);
+        CHECK.due("both", fresh.walker(0, 5), 9);
+        fresh.minute();
+        CHECK.due("what the tide left", fresh.walker(0, 5), 8);
+        CHECK.due("trail(0)", fresh.trail(0), 1);
+        CHECK.due("another one's", fresh.walker(1, 5), 0);
+        CHECK.due("trail(1)", fresh.trail(1), 0);
+        CHECK.by("24",
+            "In how many parts the FRESH prints of a WALKER lie (of one part are those BESIDE one another, and so on)");
         SandNights x = Check.told("beach 4 by 4;walker a at 0 0 stride 30;walker b at 3 3 stride 30;");
         CHECK.due("trail(0)", x.trail(0), 0);
         int[] round = {0, 1, 2, 3, 7, 11};
@@ -462,12 +479,18 @@ public final class WaysTest {
         CHECK.due("in one CELL", x.catches(1, 0), 0);
         // A way of five cells: 0 1 2, then down the right side to 5 and 8.
         SandNights bent = Check.told("beach 3 by 3;hut 0 1;hut 1 1;hut 0 2;hut 1 2;"
-            + "walker a at 1 0 stride 10;walker b at 2 1 stride 10;walker c at 0 0 stride 10;walker d at 2 2 stride 10;");
+            + "walker a at 1 0 stride 10;walker b at 2 1 stride 10;walker c at 0 0 stride 10;"
+            + "walker d at 2 2 stride 10;");
         CHECK.due("down to the end", bent.catches(0, 1), 3);
         CHECK.due("the other way", bent.catches(1, 0), 3);
         CHECK.due("from the end", bent.catches(2, 1), 4);
         CHECK.due("from end to end", bent.catches(2, 3), 4);
         CHECK.due("beside at the end", bent.catches(0, 2), 1);
+        CHECK.by("Terms", "two WALKERS step by turns (staying, too), the first one first");
+        CHECK.due("who is far from an end", bent.catches(2, 1), 4);
+        CHECK.due("who is in an end", bent.catches(1, 2), 3);
+        CHECK.due("ahead of his turn", bent.catches(3, 1), 1);
+        CHECK.by("Terms", "he wants to come to the other one's CELL as soon as can be, the other one as late");
         // A T: the thief in its foot has no way out.
         SandNights tee = Check.told("beach 3 by 2;hut 0 1;hut 2 1;walker a at 0 0 stride 10;walker b at 1 1 stride 10;"
             + "walker c at 2 0 stride 10;");
