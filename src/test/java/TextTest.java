@@ -698,7 +698,9 @@ public final class TextTest {
             CHECK.due("met anew", x.met(0, 1), 1);
             x.night();
             CHECK.due("an empty beach", x.beach(), 0);
+            CHECK.due("no tide", x.sand(0, 5), 0);
             CHECK.due("no hut where a walker was", Check.tell(x, "hut 0 0;hut 3 1;"), 0);
+            CHECK.due("no tide", x.sand(0, 5), 0);
         }
     }
 

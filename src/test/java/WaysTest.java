@@ -11,6 +11,7 @@ public final class WaysTest {
 
     public static void main(String[] args) {
         nothingDone();
+        anyOrder();
         way();
         wayNone();
         ways();
@@ -77,6 +78,33 @@ public final class WaysTest {
         x.sly(0, 8, 0);
         CHECK.due("way and sly", wholeWithoutLies(x).equals(before), true);
         CHECK.due("redo()", x.redo(), true);
+    }
+
+    private static int asked(SandNights x, int question) {
+        return switch (question) {
+            case 0 -> x.way(0, 0);
+            case 1 -> x.ways(1, 15);
+            case 2 -> x.sly(0, 12, 1);
+            case 3 -> x.rounds(0, 6);
+            case 4 -> x.catches(0, 1);
+            case 5 -> x.catches(1, 2);
+            case 6 -> x.guard(0, 15, 1);
+            case 7 -> x.join(0, 1, 1);
+            case 8 -> x.paths(0);
+            default -> x.ways(0, 5);
+        };
+    }
+
+    private static void anyOrder() {
+        CHECK.by("Terms", "nothing is done.");
+        SandNights x = Check.told("walker a at 3 0 stride 10;walker b at 0 0 stride 10;walker c at 1 0 stride 10;");
+        int[] due = {3, 20, 6, 251, -1, 1, 18, 1, 351568, 3};
+        for (int first = 0; first < due.length; first++) {
+            for (int second = 0; second < due.length; second++) {
+                CHECK.due("question " + first, asked(x, first), due[first]);
+                CHECK.due("question " + second + " behind " + first, asked(x, second), due[second]);
+            }
+        }
     }
 
     private static void way() {
@@ -196,6 +224,16 @@ public final class WaysTest {
         x.step(0, 0);
         slyIs(x, 1, 1, 2, 1, 0);
         slyIs(x, 0, 2, 0, 3, 6, 7, 8, 5);
+        SandNights goal = Check.told(RING);
+        goal.step(1, 2);
+        slyIs(goal, 0, 1, 0, 1, 2);
+        slyIs(goal, 2, 1, 8, 5, 2);
+        SandNights gap = Check.told(RING + "tide column = 1;");
+        gap.step(1, 2);
+        gap.step(1, 1);
+        gap.step(1, 0);
+        gap.minute();
+        slyIs(gap, 0, 1, 0, 1, 2);
         CHECK.by("Terms", "that he comes to");
         SandNights start = Check.told(RING);
         start.step(0, 0);
@@ -496,7 +534,13 @@ public final class WaysTest {
             + "walker c at 2 0 stride 10;");
         CHECK.due("in the foot of a T", tee.catches(0, 1), 2);
         CHECK.due("from arm to arm", tee.catches(0, 2), 2);
+        SandNights wide = Check.told("beach 5 by 5;walker a at 4 4 stride 10;walker b at 3 4 stride 10;"
+            + "walker c at 4 2 stride 10;");
+        CHECK.due("beside on a wide beach", wide.catches(0, 1), 1);
+        SandNights four = Check.told("beach 2 by 2;walker a at 0 0 stride 10;walker b at 1 0 stride 10;");
+        CHECK.due("beside among four CELLS", four.catches(0, 1), 1);
         CHECK.by("34", "CATCH; NONE if never, or one can't be (one twice, too)");
+        CHECK.due("on a wide beach", wide.catches(0, 2), -1);
         SandNights ring = Check.told(RING);
         CHECK.due("round a ring", ring.catches(0, 1), -1);
         CHECK.due("round a ring", ring.catches(1, 0), -1);
