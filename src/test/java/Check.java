@@ -1,3 +1,7 @@
+import java.io.IOException;
+import java.nio.file.Files;
+import java.nio.file.Path;
+
 /** What the tests share: telling a beach by its text, and counting answers that are not as due. */
 final class Check {
     private final String name;
@@ -17,6 +21,32 @@ final class Check {
         sentences++;
         askedBefore = asked;
         words = " [" + where + ": " + sentence + "]";
+        boolean stands = oneLine(section(where)).contains(oneLine(sentence));
+        if (!stands) {
+            wrong++;
+            System.out.println(name + words + ": the document does not say so there");
+        }
+    }
+
+    /** A section of the document: "Terms", or a promise by its number. */
+    static String section(String where) {
+        String document = document();
+        String head = where.matches("\\d+") ? "\n## Promise " + where + ":" : "\n## " + where + "\n";
+        int from = document.indexOf(head);
+        int to = document.indexOf("\n## ", from + 1);
+        return from < 0 ? "" : document.substring(from, to < 0 ? document.length() : to);
+    }
+
+    static String document() {
+        try {
+            return Files.readString(Path.of("../shared/DOC.md"));
+        } catch (IOException e) {
+            throw new IllegalStateException("the document is not at ../shared/DOC.md", e);
+        }
+    }
+
+    private static String oneLine(String text) {
+        return text.replaceAll("\\s+", " ");
     }
 
     void due(String call, long got, long want) {

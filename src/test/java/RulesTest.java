@@ -3,6 +3,7 @@ import java.lang.reflect.Constructor;
 import java.lang.reflect.Field;
 import java.lang.reflect.Method;
 import java.lang.reflect.Modifier;
+import java.nio.file.DirectoryStream;
 import java.nio.file.Files;
 import java.nio.file.Path;
 import java.util.Arrays;
@@ -14,22 +15,48 @@ import java.util.regex.Pattern;
 /** The public face, what of LANGUAGE.md can be seen without reading, and the room that a run takes. */
 public final class RulesTest {
     private static final Check CHECK = new Check("RulesTest");
-    private static final String FACE = "feed/int,int,int,int,int/int end/int/int beach//int fault/int/int"
-        + " walker/int,int/int sand/int,int/int over/int,int/int met/int,int/int prints//int step/int,int/int"
-        + " minute//int night//int undo//boolean redo//boolean way/int,int/int ways/int,int/int sly/int,int,int/int"
-        + " reach/int,int/int parts//int join/int,int,int/int rounds/int,int/int guard/int,int,int/int trail/int/int"
-        + " ghost/int,int/int first/int,int/int alone/int/int crowd/int/int remains/int,int/int cover/int,int/int"
-        + " orders//int may/int/int matched/int,int,int,int/int catches/int,int/int lasts/int,int/int tides/int/int"
-        + " boldest//int lies/int/int seen/int,int,boolean/int inRow/int,int,boolean/int untell/int/boolean"
-        + " later/int/int paths/int/int sure/int,int/int ask/int,int/int image/int/int back/int/int about/int/int";
+    private static final String FACE = documentFace();
 
     public static void main(String[] args) throws Exception {
+        promises();
         face();
         shape();
         source();
         lengths();
         room();
         CHECK.finish();
+    }
+
+    /** The document's methods, one behind the other, in the form name/types/type. */
+    private static String documentFace() {
+        StringBuilder face = new StringBuilder();
+        Pattern method = Pattern.compile("public (int|boolean) (\\w+)\\((.*?)\\);");
+        Matcher methods = method.matcher(Check.section("The public face"));
+        while (methods.find()) {
+            String types = methods.group(3).replaceAll(" \\w+(,|$)", "$1").replace(" ", "");
+            face.append(face.length() > 0 ? " " : "");
+            face.append(methods.group(2)).append('/').append(types).append('/').append(methods.group(1));
+        }
+        return face.toString();
+    }
+
+    /** Of each promise some test quotes a sentence, and Check sees that it stands there. */
+    private static void promises() throws Exception {
+        StringBuilder tests = new StringBuilder();
+        try (DirectoryStream<Path> files = Files.newDirectoryStream(Path.of("src/test/java"), "*Test.java")) {
+            for (Path file : files) {
+                tests.append(Files.readString(file));
+            }
+        }
+        int promises = 0;
+        Matcher heads = Pattern.compile("\n## Promise (\\d+): ").matcher(Check.document());
+        while (heads.find()) {
+            promises++;
+            String quote = "CHECK.by(\"" + heads.group(1) + "\",";
+            CHECK.due("promise " + heads.group(1) + " has a test", tests.indexOf(quote) >= 0, true);
+        }
+        CHECK.due("promises", promises, 48);
+        CHECK.due("a constructor and methods", FACE.split(" ").length, promises - 1);
     }
 
     private static void face() {
